@@ -1,3 +1,5 @@
+import java.util.function.Supplier;
+
 /** What the tests share: it prints every answer that is not as due, and ends with exit code 1 if there was one. */
 final class Check {
     static final Class<? extends RuntimeException> INDEX = IndexOutOfBoundsException.class;
@@ -8,10 +10,30 @@ final class Check {
         long answer();
     }
 
+    interface CallOf {
+        long answer(RedactCheck x);
+    }
+
     private static int wrong = 0;
     private static int looked = 0;
+    private static int sentences = 0;
 
     private Check() {
+    }
+
+    /** A test of its own for what one sentence of the document says: it is named when it does not hold. */
+    static void sentence(String words, Runnable test) {
+        sentences++;
+        int before = wrong;
+        try {
+            test.run();
+        } catch (RuntimeException e) {
+            wrong++;
+            System.out.println("the test was ended by " + e);
+        }
+        if (wrong > before) {
+            System.out.println("NOT HELD: " + words);
+        }
     }
 
     static void due(String call, long got, long want) {
@@ -26,13 +48,26 @@ final class Check {
         same(call, told(made), "throws." + want.getName());
     }
 
+    /** A call that is due to be refused, and after which an object is as one that was never asked. */
+    static void refusedForNothing(String call, Class<? extends RuntimeException> want, Supplier<RedactCheck> made, CallOf asked) {
+        RedactCheck x = made.get();
+        refused(call, want, () -> asked.answer(x));
+        same("what is there after " + call, wholeAndOn(x), wholeAndOn(made.get()));
+    }
+
     /** A call's answer as text; the exception's exact class, so that a machine's subclass is not taken for the document's. */
     static String told(Call made) {
         try {
             return String.valueOf(made.answer());
         } catch (RuntimeException e) {
-            return "throws." + e.getClass().getName();
+            return "throws." + e.getClass().getName() + (isOfLibrary(e) ? " of the library" : "");
         }
+    }
+
+    /** The class must throw by itself: what a list of the library throws is of the right class at times. */
+    private static boolean isOfLibrary(RuntimeException e) {
+        StackTraceElement[] trace = e.getStackTrace();
+        return trace.length > 0 && (trace[0].getClassName().startsWith("java.") || trace[0].getClassName().startsWith("jdk."));
     }
 
     static void same(String call, String got, String want) {
@@ -44,7 +79,7 @@ final class Check {
     }
 
     static void end() {
-        System.out.println(looked + " answers, " + wrong + " not as due");
+        System.out.println((sentences > 0 ? sentences + " sentences, " : "") + looked + " answers, " + wrong + " not as due");
         if (wrong != 0) {
             System.exit(1);
         }
@@ -88,7 +123,8 @@ final class Check {
     /** A row of signs as text: code, place and width of each. */
     static String row(RedactCheck x, int of, int number) {
         StringBuilder text = new StringBuilder();
-        for (int i = 0; i < x.many(of, number); i++) {
+        int count = x.many(of, number);
+        for (int i = 0; i < count; i++) {
             text.append(x.at(of, number, i, 0)).append('@').append(x.at(of, number, i, 1)).append(',')
                     .append(x.at(of, number, i, 2)).append('+').append(x.at(of, number, i, 3)).append(' ');
         }
@@ -97,7 +133,8 @@ final class Check {
 
     static String bytesOf(RedactCheck x, int store) {
         StringBuilder text = new StringBuilder();
-        for (int i = 0; i < x.many(2, store); i++) {
+        int count = x.many(2, store);
+        for (int i = 0; i < count; i++) {
             text.append(x.byteOf(store, i)).append(' ');
         }
         return text.toString().trim();
@@ -135,6 +172,17 @@ final class Check {
         for (int i = 0; i < x.told(5); i++) {
             text.append("\nleft ").append(leftAt(x, i));
         }
+        return text.toString();
+    }
+
+    /** The whole, and what comes of it: words' letters, areas' places and encodings show only by that. */
+    static String wholeAndOn(RedactCheck x) {
+        StringBuilder text = new StringBuilder(whole(x));
+        text.append("\nlook ").append(told(x::look));
+        for (int i = 0; i < x.told(5); i++) {
+            text.append("\nleft ").append(leftAt(x, i));
+        }
+        text.append("\nblack ").append(told(x::black)).append('\n').append(whole(x));
         return text.toString();
     }
 }
