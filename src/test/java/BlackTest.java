@@ -14,6 +14,7 @@ public final class BlackTest {
     private static void nothingAndPages() {
         Check.sentence("nothing to black out: none went, and all stays", BlackTest::nothingToBlackOut);
         Check.sentence("a second blacking out finds nothing", BlackTest::nothingASecondTime);
+        Check.sentence("what went is no sign and no code any more", BlackTest::whatWentIsNotMarked);
         Check.sentence("all is marked first, then cut", BlackTest::markedBeforeCut);
         Check.sentence("a sign is MARKED, if it has a dot in common with an AREA", BlackTest::areasTouchByOneDot);
         Check.sentence("(one that is 0 wide or high has none)", BlackTest::areasOfNoDots);
@@ -103,6 +104,23 @@ public final class BlackTest {
         String before = Check.whole(x);
         Check.due("the second", x.black(), 0);
         Check.same("all stays", Check.whole(x), before);
+    }
+
+    private static void whatWentIsNotMarked() {
+        RedactCheck x = new RedactCheck();
+        Check.signs(x, 0, 0, 0, "abc");
+        int form = Check.form(x, 0, 0, "abc");
+        x.use(1, form, 0, 0);
+        Check.store(x, 0, 'a', 'b', 'c');
+        Check.word(x, "abc");
+        Check.due("black", x.black(), 9);
+        for (int page = 0; page < 4; page++) {
+            x.area(page, -999, -999, 1999, 1999);
+        }
+        Check.word(x, "c");
+        Check.due("neither by areas nor by words", x.black(), 0);
+        Check.due("no form more", x.told(0), 2);
+        Check.due("nor is it left", x.look(), 0);
     }
 
     private static void markedBeforeCut() {
