@@ -518,7 +518,7 @@ public final class RedactCheck {
         private final int[] letters = new int[MOST_LETTERS];
 
         void add(int code) {
-            if (count < letters.length) {
+            if (count >= 0 && count < letters.length) {
                 letters[count] = code;
                 count++;
             }
